@@ -650,6 +650,7 @@ public final class MemoParser {
             growths = 0;
             farthest = NONE;
             int found = lookForRule(rule, place, 0);
+            // Read as a state: what was remembered before this parse is not remembered any more, either.
             if (found == EXHAUSTED) {
                 memory.clear();
             }

@@ -14,14 +14,18 @@ public final class RandomRunsTest {
     private final PlainParser plain = new PlainParser();
     private final StringBuilder log = new StringBuilder();
     private final boolean wild;
+    /** Few rules that mostly look for one another at one place, and few edits: what names are for. */
+    private final boolean tight;
     private final int ruleCount;
     private boolean right = true;
+    private int exhausted = 0;
 
     private RandomRunsTest(long seed) {
         random = new Random(seed);
         letters = 1 + random.nextInt(LETTERS.length());
         wild = random.nextInt(4) == 0;
-        ruleCount = 1 + random.nextInt(random.nextBoolean() ? 3 : 10);
+        tight = random.nextInt(3) == 0;
+        ruleCount = tight ? 3 + random.nextInt(3) : 1 + random.nextInt(random.nextBoolean() ? 3 : 10);
     }
 
     public static void main(String[] args) {
@@ -36,9 +40,12 @@ public final class RandomRunsTest {
         Check.end();
     }
 
-    private int exhausted = 0;
-
     private void make() {
+        if (tight) {
+            for (int rule = 0; rule < ruleCount && right; rule++) {
+                createRule(rule);
+            }
+        }
         int creations = 5 + random.nextInt(30);
         for (int i = 0; i < creations && right; i++) {
             create();
@@ -53,7 +60,7 @@ public final class RandomRunsTest {
 
     private void step() {
         int kind = random.nextInt(wild ? 24 : 18);
-        if (kind < 6) {
+        if (kind < 6 || tight && random.nextInt(3) > 0) {
             parse();
         } else if (kind < 11) {
             edit();
@@ -90,12 +97,11 @@ public final class RandomRunsTest {
             int which = random.nextInt(2);
             compare("plain(" + which + ")", () -> mine.plain(which), () -> plain.plain(which));
         } else if (kind < 10) {
-            int rule = random.nextInt(ruleCount);
-            compare("rule(" + rule + ")", () -> mine.rule(rule), () -> plain.rule(rule));
+            createRule(random.nextInt(ruleCount));
         } else if (kind < 17) {
             int which = 4 + random.nextInt(2);
-            int a = pickLate();
-            int b = pickLate();
+            int a = tight ? pick() : pickLate();
+            int b = tight ? pick() : pickLate();
             compare("join(" + which + ", " + a + ", " + b + ")", () -> mine.join(which, a, b),
                     () -> plain.join(which, a, b));
         } else {
@@ -103,6 +109,10 @@ public final class RandomRunsTest {
             int a = pickLate();
             compare("wrap(" + which + ", " + a + ")", () -> mine.wrap(which, a), () -> plain.wrap(which, a));
         }
+    }
+
+    private void createRule(int rule) {
+        compare("rule(" + rule + ")", () -> mine.rule(rule), () -> plain.rule(rule));
     }
 
     private void define(int rule, int expression) {
