@@ -277,7 +277,7 @@ public final class MemoParser {
 
         // Filled anew by each question about the form, for define can change every answer.
         private final boolean[] empties = new boolean[MOST_EXPRESSIONS];
-        private final boolean[] emptyRules = new boolean[RULES];
+        private int emptyRules = 0;
         private final int[] beginnings = new int[MOST_EXPRESSIONS];
 
         Grammar() {
@@ -337,7 +337,7 @@ public final class MemoParser {
 
         /** Starts with no rule that can be empty, and adds rules until none follows any more. */
         private void findEmpties() {
-            Arrays.fill(emptyRules, false);
+            emptyRules = 0;
             boolean more = true;
             // Every round but the last one adds a rule.
             for (int round = 0; round <= RULES && more; round++) {
@@ -355,7 +355,7 @@ public final class MemoParser {
                 case RANGE:
                     return false;
                 case RULE:
-                    return emptyRules[first];
+                    return (emptyRules & bit(first)) != 0;
                 case SEQUENCE:
                     return empties[first] && empties[second];
                 case CHOICE:
@@ -366,15 +366,14 @@ public final class MemoParser {
         }
 
         private boolean addEmptyRules() {
-            boolean added = false;
+            int before = emptyRules;
             for (int rule = 0; rule < RULES; rule++) {
                 int expression = ruleExpressions[rule];
-                if (!emptyRules[rule] && has(expression) && empties[expression]) {
-                    emptyRules[rule] = true;
-                    added = true;
+                if (has(expression) && empties[expression]) {
+                    emptyRules |= bit(rule);
                 }
             }
-            return added;
+            return emptyRules != before;
         }
 
         private void findBeginnings() {

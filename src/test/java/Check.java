@@ -4,6 +4,7 @@ import java.util.Objects;
 final class Check {
     private static int checked = 0;
     private static int wrong = 0;
+    private static String words = "";
 
     interface Call {
         void run();
@@ -12,11 +13,17 @@ final class Check {
     private Check() {
     }
 
+    /** The words of the document that the checks from here on are of; printed with what is not as due. */
+    static void about(String documentWords) {
+        words = documentWords;
+    }
+
     static void due(String what, Object got, Object want) {
         checked++;
         if (!Objects.equals(got, want)) {
             wrong++;
-            System.out.println(what + " answered " + got + ", due is " + want);
+            String quote = words.isEmpty() ? "" : " (\"" + words + "\")";
+            System.out.println(what + " answered " + got + ", due is " + want + quote);
         }
     }
 
@@ -96,6 +103,20 @@ final class Check {
         return s.toString();
     }
 
+    /** A parser without rules on a text of any length. */
+    static MemoParser on(String text) {
+        MemoParser p = new MemoParser();
+        append(p, text);
+        return p;
+    }
+
+    /** Creates expressions until there are 80. */
+    static void fill(MemoParser p) {
+        for (int i = p.expressionCount(); i < 80; i++) {
+            p.plain(0);
+        }
+    }
+
     static int letter(MemoParser p, char letter) {
         return p.range(letter, letter);
     }
@@ -122,6 +143,10 @@ final class Check {
 
     static int not(MemoParser p, int a) {
         return p.wrap(9, a);
+    }
+
+    static int wrongOnes() {
+        return wrong;
     }
 
     static void end() {

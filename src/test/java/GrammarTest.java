@@ -43,7 +43,7 @@ public final class GrammarTest {
         for (int kind : new int[] {-1, 2, 3, 9, MAX, MIN}) {
             Check.badArgument("plain(" + kind + ")", p, () -> p.plain(kind));
         }
-        fill(p);
+        Check.fill(p);
         Check.badState("plain(0) when full", p, () -> p.plain(0));
         Check.badState("plain(1) when full", p, () -> p.plain(1));
         Check.badArgument("plain(2) when full", p, () -> p.plain(2));
@@ -59,7 +59,7 @@ public final class GrammarTest {
         for (int[] b : bad) {
             Check.badArgument("range(" + b[0] + ", " + b[1] + ")", p, () -> p.range(b[0], b[1]));
         }
-        fill(p);
+        Check.fill(p);
         Check.badState("range(32, 126) when full", p, () -> p.range(32, 126));
         Check.badArgument("range(33, 32) when full", p, () -> p.range(33, 32));
     }
@@ -72,7 +72,7 @@ public final class GrammarTest {
         for (int rule : new int[] {-1, 10, 11, MAX, MIN}) {
             Check.outOfBounds("rule(" + rule + ")", p, () -> p.rule(rule));
         }
-        fill(p);
+        Check.fill(p);
         Check.badState("rule(9) when full", p, () -> p.rule(9));
         Check.outOfBounds("rule(10) when full", p, () -> p.rule(10));
     }
@@ -92,7 +92,7 @@ public final class GrammarTest {
         for (int kind : new int[] {-1, 0, 3, 6, 9, MAX, MIN}) {
             Check.badArgument("join(" + kind + ", 0, 1)", p, () -> p.join(kind, 0, 1));
         }
-        fill(p);
+        Check.fill(p);
         Check.badState("join(4, 0, 79) when full", p, () -> p.join(4, 0, 79));
         Check.outOfBounds("join(3, 80, 0) when full", p, () -> p.join(3, 80, 0));
         Check.outOfBounds("join(3, 0, 80) when full", p, () -> p.join(3, 0, 80));
@@ -113,7 +113,7 @@ public final class GrammarTest {
         for (int kind : new int[] {-1, 0, 5, 10, MAX, MIN}) {
             Check.badArgument("wrap(" + kind + ", 0)", p, () -> p.wrap(kind, 0));
         }
-        fill(p);
+        Check.fill(p);
         Check.badState("wrap(9, 79) when full", p, () -> p.wrap(9, 79));
         Check.outOfBounds("wrap(5, 80) when full", p, () -> p.wrap(5, 80));
         Check.badArgument("wrap(5, 79) when full", p, () -> p.wrap(5, 79));
@@ -161,11 +161,5 @@ public final class GrammarTest {
         Check.due("expressionCount()", p.expressionCount(), 80);
         Check.due("plain(0)", Check.thrownBy(() -> p.plain(0)), "java.lang.IllegalStateException");
         Check.due("expressionCount()", p.expressionCount(), 80);
-    }
-
-    private static void fill(MemoParser p) {
-        for (int i = p.expressionCount(); i < 80; i++) {
-            p.plain(0);
-        }
     }
 }

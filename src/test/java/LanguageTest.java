@@ -21,6 +21,7 @@ public final class LanguageTest {
         forbiddenWords(code);
         imports(code);
         throwsOnlyWhatMayBeThrown(code);
+        fillsNumbersAlone(code);
         shortMethods(lines);
         plainSigns(code);
         Check.end();
@@ -55,6 +56,15 @@ public final class LanguageTest {
             Check.due("throw" + m.group(1), m.group(1).matches(wanted), true);
         }
         Check.due("there are throws", count > 0, true);
+    }
+
+    /** Rule 4: Arrays.fill over arrays of numbers, not of booleans. */
+    private static void fillsNumbersAlone(String code) {
+        Matcher m = Pattern.compile("Arrays\\.\\w+\\((\\w+)").matcher(code);
+        while (m.find()) {
+            String declared = "\\b(int|long|short|byte|char)\\[\\] " + m.group(1) + "\\b";
+            Check.due(m.group() + " is of numbers", Pattern.compile(declared).matcher(code).find(), true);
+        }
     }
 
     /** Rule 11; a method begins with a line that ends its parameters and opens a brace. */

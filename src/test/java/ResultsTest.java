@@ -17,12 +17,6 @@ public final class ResultsTest {
         Check.end();
     }
 
-    private static MemoParser on(String text) {
-        MemoParser p = new MemoParser();
-        Check.append(p, text);
-        return p;
-    }
-
     /** Parses an expression as rule 0, from a place on. */
     private static void finds(String what, MemoParser p, int expression, int place, int want) {
         p.define(0, expression);
@@ -30,7 +24,7 @@ public final class ResultsTest {
     }
 
     private static void plainKinds() {
-        MemoParser p = on("ab");
+        MemoParser p = Check.on("ab");
         int empty = p.plain(0);
         int cut = p.plain(1);
         for (int place = 0; place <= 2; place++) {
@@ -40,7 +34,7 @@ public final class ResultsTest {
     }
 
     private static void ranges() {
-        MemoParser p = on("abcde");
+        MemoParser p = Check.on("abcde");
         int range = p.range('b', 'd');
         finds("less than the range", p, range, 0, FAILURE);
         finds("the first byte", p, range, 1, 2);
@@ -48,12 +42,12 @@ public final class ResultsTest {
         finds("the second byte", p, range, 3, 4);
         finds("greater than the range", p, range, 4, FAILURE);
         finds("the end", p, range, 5, FAILURE);
-        MemoParser q = on("");
+        MemoParser q = Check.on("");
         finds("all bytes in no text", q, q.range(32, 126), 0, FAILURE);
     }
 
     private static void sequences() {
-        MemoParser p = on("abab");
+        MemoParser p = Check.on("abab");
         int a = Check.letter(p, 'a');
         int b = Check.letter(p, 'b');
         int ab = Check.sequence(p, a, b);
@@ -66,7 +60,7 @@ public final class ResultsTest {
     }
 
     private static void choices() {
-        MemoParser p = on("ab");
+        MemoParser p = Check.on("ab");
         int a = Check.letter(p, 'a');
         int b = Check.letter(p, 'b');
         int ab = Check.sequence(p, a, b);
@@ -78,7 +72,7 @@ public final class ResultsTest {
     }
 
     private static void stars() {
-        MemoParser p = on("aaab");
+        MemoParser p = Check.on("aaab");
         int a = Check.letter(p, 'a');
         int b = Check.letter(p, 'b');
         int star = Check.star(p, a);
@@ -91,12 +85,12 @@ public final class ResultsTest {
         finds("(a*)*", p, Check.star(p, star), 0, 3);
         finds("(a|b)*", p, Check.star(p, Check.choice(p, a, b)), 0, 4);
         finds("a*a", p, Check.sequence(p, star, a), 0, FAILURE);
-        MemoParser q = on("aaaaaaaaaaaaaaaaaaaaaaaaaaaaaaaaaaaaaaaa");
+        MemoParser q = Check.on("aaaaaaaaaaaaaaaaaaaaaaaaaaaaaaaaaaaaaaaa");
         finds("a* over the longest text", q, Check.star(q, Check.letter(q, 'a')), 0, 40);
     }
 
     private static void optionals() {
-        MemoParser p = on("ab");
+        MemoParser p = Check.on("ab");
         int a = Check.letter(p, 'a');
         finds("a?", p, Check.optional(p, a), 0, 1);
         finds("a? without an a", p, Check.optional(p, a), 1, 1);
@@ -104,7 +98,7 @@ public final class ResultsTest {
     }
 
     private static void lookahead() {
-        MemoParser p = on("ab");
+        MemoParser p = Check.on("ab");
         int a = Check.letter(p, 'a');
         finds("&a", p, Check.and(p, a), 0, 0);
         finds("&a without an a", p, Check.and(p, a), 1, FAILURE);
@@ -115,7 +109,7 @@ public final class ResultsTest {
     }
 
     private static void rules() {
-        MemoParser p = on("ab");
+        MemoParser p = Check.on("ab");
         int one = p.rule(1);
         int b = Check.letter(p, 'b');
         p.define(1, Check.letter(p, 'a'));
@@ -131,7 +125,7 @@ public final class ResultsTest {
 
     /** Only CUT and SEQUENCE can have cut: what is round them drops it. */
     private static void cutsStayInside() {
-        MemoParser p = on("ac");
+        MemoParser p = Check.on("ac");
         int a = Check.letter(p, 'a');
         int c = Check.letter(p, 'c');
         int ac = Check.sequence(p, a, c);
@@ -160,7 +154,7 @@ public final class ResultsTest {
     }
 
     private static void cutsOfSequences() {
-        MemoParser p = on("ab");
+        MemoParser p = Check.on("ab");
         int a = Check.letter(p, 'a');
         int c = Check.letter(p, 'c');
         int cut = p.plain(1);
@@ -174,7 +168,7 @@ public final class ResultsTest {
         finds("cut, then success", p, Check.choice(p, bySecond, c), 0, 1);
         int turns = Check.star(p, Check.sequence(p, a, Check.sequence(p, cut, c)));
         finds("a cut in a STAR's only turn", p, turns, 0, FAILURE);
-        MemoParser q = on("acaca");
+        MemoParser q = Check.on("acaca");
         int turn = Check.sequence(q, Check.sequence(q, Check.letter(q, 'a'), q.plain(1)), Check.letter(q, 'c'));
         finds("a cut in a STAR's third turn", q, Check.star(q, turn), 0, FAILURE);
         finds("a cut that is not reached", q, Check.star(q, turn), 1, 1);
@@ -183,7 +177,7 @@ public final class ResultsTest {
     }
 
     private static void refusals() {
-        MemoParser p = on("ab");
+        MemoParser p = Check.on("ab");
         p.define(0, p.plain(0));
         p.define(9, p.range('a', 'b'));
         Check.due("parse(9, 0)", p.parse(9, 0), 1);
