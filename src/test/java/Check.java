@@ -145,6 +145,23 @@ final class Check {
         return p.wrap(9, a);
     }
 
+    /** An expression with a work of 2^(n+1) - 1 that is always an empty success. */
+    static int doubled(MemoParser p, int n) {
+        int e = p.plain(0);
+        for (int i = 0; i < n; i++) {
+            e = sequence(p, e, e);
+        }
+        return e;
+    }
+
+    /** An expression with a work of 5000: 1 + 4095 + (1 + 511 + (1 + 255 + (1 + 127 + 8))). */
+    static int fiveThousand(MemoParser p) {
+        int e = sequence(p, doubled(p, 6), optional(p, doubled(p, 2)));
+        e = sequence(p, doubled(p, 7), e);
+        e = sequence(p, doubled(p, 8), e);
+        return sequence(p, doubled(p, 11), e);
+    }
+
     static int wrongOnes() {
         return wrong;
     }

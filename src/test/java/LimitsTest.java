@@ -10,27 +10,9 @@ public final class LimitsTest {
         Check.end();
     }
 
-    /** An expression with a work of 2^(n+1) - 1 that is always an empty success. */
-    private static int doubled(MemoParser p, int n) {
-        int e = p.plain(0);
-        for (int i = 0; i < n; i++) {
-            e = Check.sequence(p, e, e);
-        }
-        return e;
-    }
-
-    /** An expression with a work of 5000: 1 + 4095 + (1 + 511 + (1 + 255 + (1 + 127 + 8))). */
-    private static int fiveThousand(MemoParser p) {
-        int eight = Check.optional(p, doubled(p, 2));
-        int e = Check.sequence(p, doubled(p, 6), eight);
-        e = Check.sequence(p, doubled(p, 7), e);
-        e = Check.sequence(p, doubled(p, 8), e);
-        return Check.sequence(p, doubled(p, 11), e);
-    }
-
     private static void workOfFiveThousand() {
         MemoParser p = new MemoParser();
-        int e = fiveThousand(p);
+        int e = Check.fiveThousand(p);
         p.define(0, e);
         p.define(1, Check.optional(p, e));
         Check.due("a work of 5000", p.parse(0, 0), 0);
@@ -97,7 +79,7 @@ public final class LimitsTest {
         }
         Check.append(p, "a");
         Check.due("a ring of rules", p.parse(4, 0), 1);
-        int big = doubled(p, 13);
+        int big = Check.doubled(p, 13);
         p.define(0, big);
         p.define(5, a);
         Check.due("too much work at once", p.parse(0, 0), -2);
@@ -107,7 +89,7 @@ public final class LimitsTest {
 
     private static void exhaustionInsideEveryKind() {
         MemoParser p = new MemoParser();
-        int big = doubled(p, 13);
+        int big = Check.doubled(p, 13);
         int empty = p.plain(0);
         int rule = p.rule(9);
         p.define(9, big);
@@ -132,7 +114,7 @@ public final class LimitsTest {
     /** What was remembered before the parse is no longer, either. */
     private static void nothingIsRememberedAnyMore() {
         MemoParser p = new MemoParser();
-        p.define(0, doubled(p, 13));
+        p.define(0, Check.doubled(p, 13));
         p.define(1, p.plain(0));
         int a = Check.letter(p, 'a');
         p.define(2, a);

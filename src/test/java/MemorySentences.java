@@ -24,12 +24,8 @@ final class MemorySentences {
         MemoParser p = Check.on(text);
         p.define(0, p.range('a', 'a'));
         p.define(1, Check.sequence(p, p.rule(0), p.range('b', 'b')));
-        int e = p.plain(0);
-        p.define(9, e);
-        for (int i = 0; i < 12; i++) {
-            e = Check.sequence(p, e, e);
-        }
-        p.define(5, e);
+        p.define(9, p.plain(0));
+        p.define(5, Check.doubled(p, 12));
         return p;
     }
 

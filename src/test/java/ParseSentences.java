@@ -105,28 +105,10 @@ final class ParseSentences {
         return p;
     }
 
-    /** A sequence of 2^(n+1) - 1 expressions that is always an empty success. */
-    private static int doubled(MemoParser p, int n) {
-        int e = p.plain(0);
-        for (int i = 0; i < n; i++) {
-            e = Check.sequence(p, e, e);
-        }
-        return e;
-    }
-
-    /** An expression of which 5000 are looked for: 1 + 4095 + (1 + 511 + (1 + 255 + (1 + 127 + 8))). */
-    private static int fiveThousand(MemoParser p) {
-        int eight = Check.optional(p, doubled(p, 2));
-        int e = Check.sequence(p, doubled(p, 6), eight);
-        e = Check.sequence(p, doubled(p, 7), e);
-        e = Check.sequence(p, doubled(p, 8), e);
-        return Check.sequence(p, doubled(p, 11), e);
-    }
-
     private static void moreWorkThan5000() {
         Doc.says("If the work would be more than 5000, ");
         MemoParser p = new MemoParser();
-        int e = fiveThousand(p);
+        int e = Check.fiveThousand(p);
         p.define(0, e);
         parses("a work of 5000", p, 0, 0, 0);
         counts("a work of 5000", p, 5000, 0, 0, -1);
@@ -214,7 +196,7 @@ final class ParseSentences {
     private static void theParseEnds() {
         Doc.says("the parse ends, and is exhausted;");
         MemoParser p = Check.on("ab");
-        int big = doubled(p, 12);
+        int big = Check.doubled(p, 12);
         int x = p.range('x', 'x');
         int empty = p.plain(0);
         int[] over = {Check.choice(p, big, x), Check.sequence(p, big, x), Check.sequence(p, Check.not(p, big), x),
@@ -240,7 +222,7 @@ final class ParseSentences {
     private static void nothingIsRememberedAnyMore() {
         Doc.says("then nothing is remembered any more.");
         MemoParser p = Check.on("ab");
-        p.define(0, doubled(p, 12));
+        p.define(0, Check.doubled(p, 12));
         p.define(1, p.plain(0));
         p.define(2, p.range('a', 'a'));
         p.define(3, Check.sequence(p, p.rule(2), p.rule(0)));
@@ -274,7 +256,7 @@ final class ParseSentences {
         parses("before the end", p, 9, 1, FAILURE);
         parses("the end", p, 9, 2, 2);
         Doc.says("Returns the place of the success (perhaps the end); -1 for a failure; -2 if the parse is exhausted.");
-        p.define(1, doubled(p, 12));
+        p.define(1, Check.doubled(p, 12));
         p.define(2, Check.star(p, p.range('a', 'b')));
         parses("a success at 0", p, 2, 2, 2);
         parses("a success with the end", p, 2, 0, 2);
@@ -310,7 +292,7 @@ final class ParseSentences {
         int a = p.range('a', 'a');
         p.define(0, Check.choice(p, Check.sequence(p, p.rule(0), a), a));
         p.define(1, p.plain(0));
-        p.define(2, doubled(p, 12));
+        p.define(2, Check.doubled(p, 12));
         p.define(3, Check.sequence(p, p.rule(1), p.rule(1)));
         return p;
     }

@@ -83,7 +83,7 @@ final class RuleSentences {
 
     private static void noHitWhileNamesAreInProgress() {
         Doc.says("and none of the rules that it names is in progress at this place, this one; that is a hit.");
-        // 0 and 1 begin with one another; 2 is 0; 3 is an a, then 1.
+        // 0 and 1 begin with one another; 2 is 0.
         MemoParser p = Check.on("aaaa");
         int a = p.range('a', 'a');
         p.define(0, Check.choice(p, Check.sequence(p, p.rule(1), a), a));
@@ -92,6 +92,7 @@ final class RuleSentences {
         parses("0 is remembered, and names 1", p, 0, 0, 4);
         parses("1 is in progress", p, 1, 0, 4);
         Check.due("so 0 is no hit", p.hits(), 0);
+        results("what was remembered of 0 stays, though it was looked for anew", p, 0, 4, 4);
         parses("no rule that 0 names is in progress", p, 2, 0, 4);
         counts("so 0 is a hit", p, 1, 1, 0);
         // Rule 5 at 1 names 4, which is then in progress at 0, but not at 1.

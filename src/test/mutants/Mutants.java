@@ -7,6 +7,7 @@ import java.net.URI;
 import java.nio.file.Files;
 import java.nio.file.Path;
 import java.util.ArrayList;
+import java.util.Arrays;
 import java.util.HashMap;
 import java.util.List;
 import java.util.Map;
@@ -44,7 +45,8 @@ public final class Mutants {
         {"(?<![\\w.])(\\d+)\\b", "($1 + 1)", "($1 - 1)"},
         {"(?<=[ (\\[])(\\b(?:place|found|here|from|many|behind|added|by|reach|depth|number|size|cell)\\b)(?=[ );,\\]])",
             "($1 + 1)", "($1 - 1)"},
-        {"\\b(?:NONE|FAILURE|EXHAUSTED|NOT_REMEMBERED|UNKNOWN)\\b", "(-1)", "(-2)", "(-3)", "(-4)"},
+        {"\\b(?:NONE|FAILURE)\\b", "(-2)", "(-3)"}, {"\\bEXHAUSTED\\b", "(-1)", "(-3)"},
+        {"\\b(?:NOT_REMEMBERED|UNKNOWN)\\b", "(-1)", "(-2)"},
         {"\\b(?:IllegalStateException|IllegalArgumentException|IndexOutOfBoundsException)(?=\\(\")",
             "IllegalStateException", "IllegalArgumentException", "IndexOutOfBoundsException"},
         {"\\bfirst\\b", "second"}, {"\\bsecond\\b", "first"}, {"\\brule\\b", "(9 - rule)"},
@@ -181,10 +183,10 @@ public final class Mutants {
     /** Which signs are neither of a comment nor of an import or a text. */
     private static boolean[] codeOf(String source) {
         boolean[] code = new boolean[source.length()];
-        java.util.Arrays.fill(code, true);
+        Arrays.fill(code, true);
         Matcher m = Pattern.compile("(?s)/\\*.*?\\*/|//[^\n]*|\"[^\"\n]*\"|import [^\n]*").matcher(source);
         while (m.find()) {
-            java.util.Arrays.fill(code, m.start(), m.end(), false);
+            Arrays.fill(code, m.start(), m.end(), false);
         }
         return code;
     }
