@@ -2,6 +2,7 @@ import java.io.IOException;
 import java.nio.file.Files;
 import java.nio.file.Path;
 import java.util.LinkedHashMap;
+import java.util.List;
 import java.util.Map;
 
 /**
@@ -20,14 +21,19 @@ final class Doc {
     private Doc() {
     }
 
-    /** Reads the description and the promises; .ci/run tells where the document is. */
-    static void read() throws IOException {
+    /** .ci/run tells where the document is. */
+    static List<String> lines() throws IOException {
         String told = System.getenv("MEMO_PARSER_DOC");
+        return Files.readAllLines(Path.of(told == null ? "../shared/DOC.md" : told));
+    }
+
+    /** Reads what the class is, the description and the promises. */
+    static void read() throws IOException {
         Section section = null;
-        for (String line : Files.readAllLines(Path.of(told == null ? "../shared/DOC.md" : told))) {
+        for (String line : lines()) {
             if (line.startsWith("## ")) {
                 String name = line.substring(3).replaceAll(":.*", "");
-                boolean binds = name.equals("Description") || name.startsWith("Promise");
+                boolean binds = name.equals("What it is") || name.equals("Description") || name.startsWith("Promise");
                 section = binds ? new Section() : null;
                 if (binds) {
                     SECTIONS.put(name, section);
@@ -39,12 +45,16 @@ final class Doc {
         for (Section one : SECTIONS.values()) {
             one.quoted = new boolean[one.words.length()];
         }
-        Check.due("sections of the document", SECTIONS.size(), 24);
+        Check.due("sections of the document", SECTIONS.size(), 25);
     }
 
     /** FaceTest holds the signatures. */
     private static boolean isSignature(String line) {
         return line.startsWith("`") && line.endsWith("`");
+    }
+
+    static void opening() {
+        current = SECTIONS.get("What it is");
     }
 
     static void description() {

@@ -1,8 +1,11 @@
+import java.io.IOException;
 import java.lang.reflect.Constructor;
 import java.lang.reflect.Field;
 import java.lang.reflect.Method;
 import java.lang.reflect.Modifier;
+import java.util.ArrayList;
 import java.util.Arrays;
+import java.util.List;
 import java.util.TreeSet;
 import java.util.stream.Collectors;
 
@@ -34,12 +37,34 @@ public final class FaceTest {
         "long digest()",
     };
 
-    public static void main(String[] args) {
+    public static void main(String[] args) throws IOException {
+        theDocument();
         theClass();
         methods();
         hiddenMembers();
         nestedClasses();
         Check.end();
+    }
+
+    /** The document tells each signature twice: in the public face, and above its promise. */
+    private static void theDocument() throws IOException {
+        List<String> want = new ArrayList<>(List.of("MemoParser()"));
+        want.addAll(Arrays.asList(FACE));
+        List<String> face = new ArrayList<>();
+        List<String> promises = new ArrayList<>();
+        for (String line : Doc.lines()) {
+            if (line.startsWith("    public ")) {
+                face.add(withoutNames(line.replaceAll("^ *public |;$", "")));
+            } else if (line.matches("`[^`]*`")) {
+                promises.add(withoutNames(line.replace("`", "")));
+            }
+        }
+        Check.due("the public face of the document", face.toString(), want.toString());
+        Check.due("the promises of the document", promises.toString(), want.toString());
+    }
+
+    private static String withoutNames(String signature) {
+        return signature.replaceAll("(int|long) \\w+([,)])", "$1$2");
     }
 
     private static void theClass() {

@@ -18,10 +18,12 @@ public final class LanguageTest {
         Path path = Path.of(source == null ? "src/main/java/MemoParser.java" : source);
         List<String> lines = Files.readAllLines(path);
         String code = withoutComments(String.join("\n", lines));
-        forbiddenWords(code);
+        String withoutTexts = code.replaceAll("\"[^\"\n]*\"", "\"\"");
+        forbiddenWords(withoutTexts);
         imports(code);
         throwsOnlyWhatMayBeThrown(code);
         fillsNumbersAlone(code);
+        makesObjectsOnlyWithItself(withoutTexts);
         shortMethods(lines);
         plainSigns(code);
         Check.end();
@@ -32,9 +34,8 @@ public final class LanguageTest {
     }
 
     private static void forbiddenWords(String code) {
-        String withoutTexts = code.replaceAll("\"[^\"\n]*\"", "\"\"");
         for (String word : NEVER) {
-            Check.due("the source has " + word, Pattern.compile(word).matcher(withoutTexts).find(), false);
+            Check.due("the source has " + word, Pattern.compile(word).matcher(code).find(), false);
         }
     }
 
@@ -64,6 +65,20 @@ public final class LanguageTest {
         while (m.find()) {
             String declared = "\\b(int|long|short|byte|char)\\[\\] " + m.group(1) + "\\b";
             Check.due(m.group() + " is of numbers", Pattern.compile(declared).matcher(code).find(), true);
+        }
+    }
+
+    /** Rule 12: what is made is thrown, or stands in a final field and thus is made with its object. */
+    private static void makesObjectsOnlyWithItself(String code) {
+        Matcher m = Pattern.compile("[^\n;{]*\\bnew\\b").matcher(code);
+        while (m.find()) {
+            String before = m.group().strip();
+            boolean made = before.matches("throw new|private final [\\w\\[\\]]+ \\w+ = new");
+            Matcher field = Pattern.compile("(\\w+) = new").matcher(before);
+            if (!made && field.matches()) {
+                made = Pattern.compile("private final \\w+ " + field.group(1) + ";").matcher(code).find();
+            }
+            Check.due(before + " is thrown or of a final field", made, true);
         }
     }
 
